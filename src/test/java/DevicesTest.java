@@ -142,6 +142,9 @@ public final class DevicesTest {
                 "load 0 0 5 = 4294967289; load 0 0 1 = 1; look 5 0 2 = 0; next 0 = 0; serve 0 = IDLE; reap 0 = FAILED");
         t.run("19: the mapping of serve takes the last handle and gives it back", RING, "submit 0 true 2 5 = 0",
                 "map 1 0 1 false = 1; map 1 0 1 false = 2; map 1 0 1 false = 3; serve 0 = 0; look 3 1 4 = -1; look 2 0 1 = 3");
+        t.run("19: the mapping of serve may be at handle 0", TWO,
+                "alloc 0 = 0; grant 0 1 0 0 = 0; map 1 0 0 false = 0; attach 0 1 = 0; unmap 1 0 = 0; submit 0 true 2 5 = 0",
+                "serve 0 = 0; look 5 0 2 = 5; load 0 1 1 = 1; look 3 1 0 = -1; look 3 1 1 = 1; look 2 0 2 = 0; reap 0 = 5");
     }
 
     private static void serveForged(Runs t) {

@@ -89,8 +89,9 @@ public final class DomainsTest {
                 "attach 0 1 = 0; submit 0 true 0 5 = 0; destroy 1 = 0; look 0 1 0 = 0; look 2 0 0 = 0; look 2 0 1 = 0",
                 "free 0 0 = BUSY; end 0 0 = 0; free 0 0 = 0; load 0 1 0 = 5; end 0 1 = 0; free 0 1 = 0");
         t.run("3: a device number is used again with new numbers and an empty disk", THREE,
-                "attach 0 1 = 0; submit 0 true 3 9 = 0; serve 0 = 0; look 5 0 3 = 9; destroy 1 = 0; create = 1",
-                "attach 2 1 = 0; look 5 0 3 = 0; look 6 0 0 = 0; serve 0 = IDLE; reap 0 = IDLE; submit 0 true 1 1 = 0");
+                "attach 0 1 = 0; submit 0 true 0 7 = 0; submit 0 true 7 9 = 1; serve 0 = 0; serve 0 = 0; reap 0 = 7",
+                "look 5 0 0 = 7; look 5 0 7 = 9; look 6 0 0 = 1; destroy 1 = 0; create = 1",
+                "attach 2 1 = 0; look 5 0 0 = 0; look 5 0 7 = 0; look 6 0 0 = 0; serve 0 = IDLE; reap 0 = IDLE; submit 0 true 1 1 = 0");
     }
 
     private static void destroyMappings(Runs t) {
