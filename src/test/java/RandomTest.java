@@ -14,28 +14,6 @@ public final class RandomTest {
     private static final int RUNS = 3000;
     private static final int CALLS = 512;
 
-    private static final Map<String, int[]> CODES = Map.ofEntries(
-            Map.entry("create", new int[] {-7}),
-            Map.entry("destroy", new int[] {-1}),
-            Map.entry("alloc", new int[] {-1, -7}),
-            Map.entry("free", new int[] {-1, -3, -4}),
-            Map.entry("grant", new int[] {-1, -2, -3, -7}),
-            Map.entry("end", new int[] {-1, -4, -5}),
-            Map.entry("map", new int[] {-1, -5, -6, -7}),
-            Map.entry("unmap", new int[] {-1, -5}),
-            Map.entry("give", new int[] {-1, -3, -4, -5, -7}),
-            Map.entry("store", new int[] {-1, -2, -3}),
-            Map.entry("load", new int[] {-1, -2, -3}),
-            Map.entry("open", new int[] {-1, -2, -7}),
-            Map.entry("bind", new int[] {-1, -7, -8}),
-            Map.entry("send", new int[] {-1, -8}),
-            Map.entry("next", new int[] {-1, -11}),
-            Map.entry("attach", new int[] {-1, -2, -7}),
-            Map.entry("submit", new int[] {-2, -7, -9, -10}),
-            Map.entry("serve", new int[] {-5, -6, -7, -9, -10, -11, -12}),
-            Map.entry("reap", new int[] {-3, -9, -10, -11, -12, -13}),
-            Map.entry("look", new int[] {-1}));
-
     private static final int[] FAR = {-1, -2, 5, 6, 20, 99, Integer.MAX_VALUE, Integer.MIN_VALUE};
 
     private final Map<String, Set<Long>> seen = new TreeMap<>();
@@ -142,7 +120,7 @@ public final class RandomTest {
 
     private void checkSeen() {
         for (String name : Calls.NAMES) {
-            for (int code : CODES.get(name)) {
+            for (int code : Calls.REFUSALS.get(name)) {
                 if (!seen.getOrDefault(name, Set.of()).contains((long) code)) {
                     wrong++;
                     System.out.println("the runs never saw " + name + " answer " + code);

@@ -1,19 +1,54 @@
-import java.util.ArrayList;
 import java.util.List;
 
 /**
- * Runs of calls written as text, each on a new object. A row is "call arguments = answer"; an argument
- * may be true or false, an answer may be a code's name. Several rows may stand on a line, parted by ';'.
+ * Runs of calls written as rows (see Row), each run on a new object. Every answer is looked at; and where the
+ * document says that a call changes nothing, as every refused call, that is sounded out, too.
  */
 final class Runs {
     private int wrong = 0;
     private int rows = 0;
+    private int sounded = 0;
 
     void run(String title, String... texts) {
         GrantRing x = new GrantRing();
-        for (String row : rowsOf(texts)) {
-            rows++;
-            checkRow(x, title, row);
+        List<Row> run = Row.all(texts);
+        for (int i = 0; i < run.size(); i++) {
+            Row row = run.get(i);
+            long got = row.make(x);
+            due(title + ": " + row.call(), got, row.answer());
+            if (got == row.answer() && row.changesNothing()) {
+                expectUntouched(title, run.subList(0, i), row);
+            }
+        }
+    }
+
+    /** For each number just outside a range, and for the ends of int: the last row with it in the place of #. */
+    void outside(String title, int below, int above, String setup, String row) {
+        for (int n : new int[] {below, above, Integer.MIN_VALUE, Integer.MAX_VALUE}) {
+            run(title, setup, row.replace("#", Integer.toString(n)));
+        }
+    }
+
+    /** For each number that is no LIVE domain's in the world FADING: BAD_DOMAIN for the call with it in place of #. */
+    void notLive(String title, String setup, String call) {
+        outside(title, -1, 5, Worlds.FADING + ";" + setup, call + " = BAD_DOMAIN");
+        run(title + ", DYING", Worlds.FADING, setup, call.replace("#", "3") + " = BAD_DOMAIN");
+        run(title + ", NONE", Worlds.FADING, setup, call.replace("#", "4") + " = BAD_DOMAIN");
+    }
+
+    /** Both runs must leave the same state behind. */
+    void same(String title, String run, String otherRun) {
+        expectNoDifference(title, Sounding.difference(checked(title, run), checked(title, otherRun)));
+    }
+
+    /** The last row must change something that can be seen; or a sounding of refused calls would be worth little. */
+    void seen(String title, String setup, String row) {
+        List<Row> before = checked(title, setup);
+        List<Row> after = checked(title, setup + ";" + row);
+        rows++;
+        if (Sounding.difference(before, after) == null) {
+            wrong++;
+            System.out.println(title + ": " + row + " was not seen to change anything");
         }
     }
 
@@ -21,59 +56,32 @@ final class Runs {
         rows++;
         if (got != want) {
             wrong++;
-            System.out.println(what + " is " + got + ", due is " + want);
+            System.out.println(what + " answered " + got + ", due is " + want);
         }
     }
 
     void finish() {
-        System.out.println(rows + " answers looked at, " + wrong + " not as due");
+        System.out.println(rows + " answers looked at, " + sounded + " states sounded, " + wrong + " not as due");
         if (wrong != 0) {
             System.exit(1);
         }
     }
 
-    private static List<String> rowsOf(String[] texts) {
-        List<String> found = new ArrayList<>();
-        for (String text : texts) {
-            for (String row : text.split("[;\n]")) {
-                if (!row.isBlank()) {
-                    found.add(row.strip());
-                }
-            }
-        }
-        return found;
+    private List<Row> checked(String title, String run) {
+        run(title, run);
+        return Row.all(run);
     }
 
-    private void checkRow(GrantRing x, String title, String row) {
-        String[] sides = row.split("=");
-        if (sides.length != 2) {
-            throw new IllegalArgumentException(title + ": not a row: " + row);
-        }
-        String[] call = sides[0].strip().split("\\s+");
-        if (call.length - 1 != Calls.argumentsOf(call[0])) {
-            throw new IllegalArgumentException(title + ": number of arguments: " + row);
-        }
-        int[] arguments = new int[call.length - 1];
-        for (int i = 0; i < arguments.length; i++) {
-            arguments[i] = argument(call[i + 1]);
-        }
-        long want = answer(sides[1].strip());
-        long got = Calls.make(x, call[0], arguments);
-        if (got != want) {
+    private void expectUntouched(String title, List<Row> before, Row call) {
+        String found = Sounding.difference(before, Sounding.with(before, call));
+        expectNoDifference(title + ": " + call.call() + " changed something", found);
+    }
+
+    private void expectNoDifference(String title, String found) {
+        sounded++;
+        if (found != null) {
             wrong++;
-            System.out.println(title + ": " + sides[0].strip() + " answered " + got + ", due is " + want);
+            System.out.println(title + ": " + found);
         }
-    }
-
-    private static int argument(String text) {
-        if (text.equals("true")) {
-            return 1;
-        }
-        return text.equals("false") ? 0 : Integer.parseInt(text);
-    }
-
-    private static long answer(String text) {
-        Integer code = Calls.CODES.get(text);
-        return code == null ? Long.parseLong(text) : code;
     }
 }
