@@ -49,7 +49,8 @@ public final class DomainEdgesTest {
         t.run("2: \"and no page\"", fullLife, "look 4 0 0 = 0; load 0 0 0 = NOT_YOURS", Worlds.allocs(0, 0, 6),
                 "alloc 0 = FULL");
         t.same("2: as new as one that never had anything", fullLife,
-                Worlds.TWO + ";" + Worlds.allocs(0, 0, 6) + "; alloc 1 = 6; grant 1 0 6 1 = 0; free 0 0 = 0" + "; free 0 1 = 0; free 0 2 = 0; free 0 3 = 0; free 0 4 = 0; free 0 5 = 0");
+                Worlds.TWO + ";" + Worlds.allocs(0, 0, 6) + "; alloc 1 = 6; grant 1 0 6 1 = 0; free 0 0 = 0"
+                + "; free 0 1 = 0; free 0 2 = 0; free 0 3 = 0; free 0 4 = 0; free 0 5 = 0");
     }
 
     private static void createFull(Runs t) {

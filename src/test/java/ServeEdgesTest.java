@@ -179,7 +179,8 @@ public final class ServeEdgesTest {
                 RING + "; submit 0 true 3 -8 = 0; store 1 0 5 0 = 0; store 1 0 1 1 = 0; destroy 1 = 0");
         t.same("19: the steps of a refused serve",
                 RING + "; submit 0 true 3 -8 = 0; store 0 0 2 19 = 0; serve 0 = READ_ONLY; destroy 1 = 0",
-                RING + "; submit 0 true 3 -8 = 0; store 0 0 2 19 = 0; store 1 0 5 -6 = 0; store 1 0 1 1 = 0" + "; destroy 1 = 0");
+                RING + "; submit 0 true 3 -8 = 0; store 0 0 2 19 = 0; store 1 0 5 -6 = 0; store 1 0 1 1 = 0"
+                + "; destroy 1 = 0");
     }
 
     private static void onRingPage(Runs t) {
