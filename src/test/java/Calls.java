@@ -14,27 +14,30 @@ final class Calls {
             Map.entry("BROKEN", -10), Map.entry("IDLE", -11), Map.entry("BAD_RING", -12),
             Map.entry("FAILED", -13));
 
-    /** The codes below 0 that the document gives each call; for serve and reap what tells how a request went, too. */
+    /**
+     * The codes below 0 that the document gives each call, the one that counts first standing first; for serve and
+     * reap, what tells how a request went comes last.
+     */
     static final Map<String, int[]> REFUSALS = Map.ofEntries(
             Map.entry("create", new int[] {-7}),
             Map.entry("destroy", new int[] {-1}),
             Map.entry("alloc", new int[] {-1, -7}),
             Map.entry("free", new int[] {-1, -3, -4}),
             Map.entry("grant", new int[] {-1, -2, -3, -7}),
-            Map.entry("end", new int[] {-1, -4, -5}),
+            Map.entry("end", new int[] {-1, -5, -4}),
             Map.entry("map", new int[] {-1, -5, -6, -7}),
             Map.entry("unmap", new int[] {-1, -5}),
             Map.entry("give", new int[] {-1, -3, -4, -5, -7}),
             Map.entry("store", new int[] {-1, -2, -3}),
             Map.entry("load", new int[] {-1, -2, -3}),
             Map.entry("open", new int[] {-1, -2, -7}),
-            Map.entry("bind", new int[] {-1, -7, -8}),
+            Map.entry("bind", new int[] {-1, -8, -7}),
             Map.entry("send", new int[] {-1, -8}),
             Map.entry("next", new int[] {-1, -11}),
             Map.entry("attach", new int[] {-1, -2, -7}),
-            Map.entry("submit", new int[] {-2, -7, -9, -10}),
-            Map.entry("serve", new int[] {-5, -6, -7, -9, -10, -11, -12}),
-            Map.entry("reap", new int[] {-3, -9, -10, -11, -12, -13}),
+            Map.entry("submit", new int[] {-9, -10, -2, -7}),
+            Map.entry("serve", new int[] {-9, -10, -11, -12, -5, -6, -7}),
+            Map.entry("reap", new int[] {-9, -10, -11, -12, -13, -3}),
             Map.entry("look", new int[] {-1}));
 
     private Calls() {

@@ -10,7 +10,7 @@ import java.util.TreeSet;
 
 /** The public face of the document and rule 1 of the language: nothing less, nothing more. */
 public final class FaceTest {
-    private static final Set<String> METHODS = Set.of(
+    static final Set<String> METHODS = Set.of(
             "int create()", "int destroy(int)", "int alloc(int)", "int free(int,int)",
             "int grant(int,int,int,int)", "int end(int,int)", "int map(int,int,int,boolean)",
             "int unmap(int,int)", "int give(int,int,int,int)", "int store(int,int,int,int)",
