@@ -8,11 +8,13 @@ import java.util.TreeSet;
 /**
  * Long mixed runs, the same ones each time. Every answer is held against the model's, and against that of a
  * twin object which is spared the refused calls: those must change nothing. At the end every code that the
- * document gives a call must have been seen, or the runs were too tame.
+ * document gives a call must have been seen, or the runs were too tame. After the 512th call any answer will do,
+ * but by rule 7 of the language there must be one.
  */
 public final class RandomTest {
     private static final int RUNS = 3000;
     private static final int CALLS = 512;
+    private static final int LATER_CALLS = 200_000;
 
     private static final int[] FAR = {-1, -2, 5, 6, 20, 99, Integer.MAX_VALUE, Integer.MIN_VALUE};
 
@@ -29,6 +31,7 @@ public final class RandomTest {
             test.run(seed);
         }
         test.checkSeen();
+        runOn();
         System.out.println(RUNS + " runs of " + CALLS + " calls, states " + test.rare + ", " + test.wrong + " wrong");
         if (test.wrong != 0) {
             System.exit(1);
@@ -56,6 +59,16 @@ public final class RandomTest {
                         + got + ", the twin " + twins + ", due is " + want);
                 return;
             }
+        }
+    }
+
+    private static void runOn() {
+        Random random = new Random(RUNS);
+        int[] weights = weights(random);
+        GrantRing worn = new GrantRing();
+        for (int i = 0; i < CALLS + LATER_CALLS; i++) {
+            String name = pick(random, weights);
+            Calls.make(worn, name, arguments(random, name));
         }
     }
 
